@@ -17,6 +17,12 @@ public final class ModelTest {
     private static final int RUNS = 500;
     private static final int CALLS = 512;
 
+    private static final int MOVING = 1;
+    private static final int RECEIVING = 2;
+    private static final int REPEATING = 3;
+    private static final int WIDE = 4;
+    private static final int LARGE = 5;
+
     // ---- the model
 
     private static final class Op {
@@ -864,7 +870,7 @@ public final class ModelTest {
 
     private ModelTest(long seed) {
         random = new Random(seed);
-        style = random.nextInt(4);
+        style = random.nextInt(6);
     }
 
     private static Object answer(LongSupplier call) {
@@ -904,7 +910,7 @@ public final class ModelTest {
         int p = position(r, col);
         int q = position(r, col);
         int n = random.nextInt(40) == 0 ? random.nextInt(20) - 4 : random.nextInt(12);
-        switch (random.nextInt(style == 1 ? 12 : 9)) {
+        switch (random.nextInt(style == MOVING ? 12 : 9)) {
             case 0:
             case 9:
                 int end = p + random.nextInt(2);
@@ -947,7 +953,7 @@ public final class ModelTest {
         int column = position(r, true);
         String at = r + ", " + row + ", " + column;
         int n = random.nextInt(25) == 0 ? random.nextInt(20200) - 10100
-                : random.nextInt(4) == 0 ? (random.nextBoolean() ? 9999 : -9999) : random.nextInt(21) - 10;
+                : random.nextInt(style == LARGE ? 2 : 4) == 0 ? (random.nextBoolean() ? 9999 : -9999) : random.nextInt(21) - 10;
         switch (random.nextInt(6)) {
             case 0:
             case 1:
@@ -996,7 +1002,7 @@ public final class ModelTest {
     private void operations() {
         int r = replica();
         int f = random.nextInt(3) == 0 ? replica() : (r + 1 + random.nextInt(2)) % 3;
-        int count = random.nextInt(30) == 0 ? random.nextInt(60) - 10 : 1 + random.nextInt(style == 2 ? 40 : 4);
+        int count = random.nextInt(30) == 0 ? random.nextInt(60) - 10 : 1 + random.nextInt(style == RECEIVING ? 40 : 4);
         int what = random.nextInt(30) == 0 ? random.nextInt(9) - 2 : random.nextInt(5);
         int k = random.nextInt(16) - 1;
         switch (random.nextInt(9)) {
@@ -1028,15 +1034,38 @@ public final class ModelTest {
         }
     }
 
+    /** All lines that there can be, so that rows stand above position 8. */
+    private void makeAllLines() {
+        for (int k = 0; k < 18; k++) {
+            int r = k % 3;
+            boolean col = k >= 9;
+            int p = random.nextInt(4);
+            same("make(" + r + ", " + col + ", " + p + ")", () -> sheet.make(r, col, p),
+                    () -> model.make(r, col, p));
+        }
+        same("settle()", () -> sheet.settle(), () -> model.settle());
+    }
+
+    private void fillWithLargeNumbers() {
+        for (int k = 0; k < 9; k++) {
+            int row = k / 3;
+            int column = k % 3;
+            int n = random.nextBoolean() ? 9999 : random.nextInt(19999) - 9999;
+            same("setNumber(0, " + row + ", " + column + ", " + n + ")", () -> sheet.setNumber(0, row, column, n),
+                    () -> model.setNumber(0, row, column, n));
+        }
+        same("settle()", () -> sheet.settle(), () -> model.settle());
+    }
+
     private String aCell() {
-        int most = 3 + random.nextInt(4);
+        int most = style == WIDE ? 12 : 3 + random.nextInt(4);
         return "" + (char) ('A' + random.nextInt(most)) + (1 + random.nextInt(Math.min(9, most)));
     }
 
     private String aFactor() {
         switch (random.nextInt(6)) {
             case 0:
-                return "" + random.nextInt(random.nextBoolean() ? 10 : 10000);
+                return "" + (style == LARGE ? 9999 : random.nextInt(random.nextBoolean() ? 10 : 10000));
             case 1:
                 return "S(" + aCell() + ":" + aCell() + ")";
             case 2:
@@ -1048,8 +1077,9 @@ public final class ModelTest {
 
     private void texts() {
         StringBuilder b = new StringBuilder(aFactor());
-        while (random.nextInt(5) < 2) {
-            b.append("+-*".charAt(random.nextInt(3))).append(aFactor());
+        while (random.nextInt(style == LARGE ? 3 : 5) < 2) {
+            b.append((style == LARGE ? "+-****" : "+-*").charAt(random.nextInt(style == LARGE ? 6 : 3)));
+            b.append(aFactor());
         }
         if (random.nextInt(8) == 0) {
             b.insert(random.nextInt(b.length() + 1), (char) (32 + random.nextInt(95)));
@@ -1069,7 +1099,7 @@ public final class ModelTest {
         }
         int r = replica();
         same("fault(" + r + ")", () -> sheet.fault(r), () -> model.fault(r));
-        int times = 1 + random.nextInt(style == 3 ? 12 : 4);
+        int times = 1 + random.nextInt(style == REPEATING ? 12 : 4);
         for (int k = 0; k < times; k++) {
             int s = random.nextInt(3);
             int row = position(s, false);
@@ -1083,9 +1113,14 @@ public final class ModelTest {
     }
 
     private boolean run() {
+        if (style == WIDE) {
+            makeAllLines();
+        } else if (style == LARGE) {
+            fillWithLargeNumbers();
+        }
         while (calls < CALLS && !wrong) {
             int kind = random.nextInt(20);
-            if (kind < (style == 1 ? 9 : 4)) {
+            if (kind < (style == MOVING ? 9 : 4)) {
                 lines();
             } else if (kind < 10) {
                 writes();
