@@ -778,13 +778,19 @@ public final class SharedSheet {
 
         void keep(Replica[] replicas) {
             if (count >= RECORD_LIMIT) {
-                System.arraycopy(carried, SIZE, carried, 0, (RECORD_LIMIT - 1) * SIZE);
-                count = RECORD_LIMIT - 1;
+                dropOldest();
             }
             for (int k = 0; k < SIZE; k++) {
                 carried[count * SIZE + k] = replicas[k / REPLICAS].carriedOf(k % REPLICAS);
             }
             count++;
+        }
+
+        private void dropOldest() {
+            for (int k = SIZE; k < carried.length; k++) {
+                carried[k - SIZE] = carried[k];
+            }
+            count = RECORD_LIMIT - 1;
         }
 
         void restoreLatest(Replica[] replicas) {

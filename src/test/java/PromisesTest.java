@@ -230,6 +230,14 @@ public final class PromisesTest {
         x.settle();
         linesAre(x, 1, ROWS, 0, 1, 2);
         due("the later clock wins", x.place(1, ROWS, 1), 2750);
+        SharedSheet z = new SharedSheet();
+        z.move(2, ROWS, 0, 2);
+        z.move(1, ROWS, 0, 1);
+        z.receive(0, 2, 1);
+        z.receive(0, 1, 1);
+        due("equal clocks, the greater replica first", z.place(0, ROWS, 0), 4000);
+        z.receive(2, 1, 1);
+        due("equal clocks, its own first", z.place(2, ROWS, 0), 4000);
         SharedSheet y = new SharedSheet();
         y.make(0, ROWS, 3);
         y.receive(1, 0, 1);
@@ -321,6 +329,7 @@ public final class PromisesTest {
         due("second", x.place(0, ROWS, 1), 2000);
         due("third", x.place(0, COLUMNS, 2), 3000);
         due("none", x.place(0, ROWS, 3), NONE);
+        due("none", x.place(0, ROWS, 11), NONE);
         x.make(0, ROWS, 2);
         due("made", x.place(0, ROWS, 3), 2500);
         due("not made there", x.place(1, ROWS, 3), NONE);
@@ -545,7 +554,24 @@ public final class PromisesTest {
         refused("column", INDEX, () -> x.error(0, 0, -1));
         refused("replica", INDEX, () -> x.error(-1, 0, 0));
         firstErrorCounts();
+        errorsAtTheLimit();
         errorsOfCycles();
+    }
+
+    private static void errorsAtTheLimit() {
+        SharedSheet x = new SharedSheet();
+        x.setNumber(0, 0, 0, 9999);
+        formula(x, 0, 0, 1, "A1*A1*10+A1*10+A1*10+10");
+        valueIs(x, 0, 1, 1000000000);
+        formula(x, 0, 0, 2, "B1+A3");
+        formula(x, 0, 1, 0, "B1+S(A1:A3)");
+        formula(x, 0, 1, 1, "B1+C1");
+        formula(x, 0, 1, 2, "B1+S(C1:C1)");
+        x.remove(0, ROWS, 2);
+        errorIs(x, 0, 2, 2);
+        errorIs(x, 1, 0, 2);
+        errorIs(x, 1, 1, 2);
+        errorIs(x, 1, 2, 2);
     }
 
     private static void firstErrorCounts() {
@@ -857,7 +883,13 @@ public final class PromisesTest {
         alike(x, false);
         x.remove(1, ROWS, 2);
         alike(x, true);
+        x.setNumber(0, 1, 2, 6);
+        alike(x, false);
+        x.setNumber(1, 1, 2, 6);
+        alike(x, true);
         x.make(0, COLUMNS, 0);
+        alike(x, false);
+        x.remove(0, COLUMNS, 1);
         alike(x, false);
         due("itself", x.areAlike(0, 0) ? 1 : 0, 1);
         refused("one", INDEX, () -> x.areAlike(3, 0) ? 1 : 0);
