@@ -1209,16 +1209,24 @@ public final class SharedSheet {
                     if (formula.kindOf(k) != Formula.NUMBER_FACTOR) {
                         int first = here.cellOf(formula.firstOf(k));
                         int second = here.cellOf(formula.secondOf(k));
-                        addRectangle(formulaCells[f], first, second);
+                        addReferences(formulaCells[f], first, second);
                     }
                 }
             }
         }
 
-        private void addRectangle(int cell, int first, int second) {
-            if (first == NONE || second == NONE) {
-                return;
+        /** A corner is named by the formula, so it is referred to even where the other one is not shown. */
+        private void addReferences(int cell, int first, int second) {
+            if (first != NONE && second != NONE) {
+                addRectangle(cell, first, second);
+            } else if (first != NONE) {
+                references.put(cell, first);
+            } else if (second != NONE) {
+                references.put(cell, second);
             }
+        }
+
+        private void addRectangle(int cell, int first, int second) {
             int lastRow = Math.max(first / LINES, second / LINES);
             int lastColumn = Math.max(first % LINES, second % LINES);
             for (int row = Math.min(first / LINES, second / LINES); row <= lastRow; row++) {

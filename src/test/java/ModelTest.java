@@ -302,14 +302,25 @@ public final class ModelTest {
             return list;
         }
 
+        void addNamed(Set<Integer> set, Ref ref) {
+            if (at(ref) != NONE) {
+                set.add(at(ref));
+            }
+        }
+
         Set<Integer> refsOf(Tree tree) {
             Set<Integer> set = new LinkedHashSet<>();
             for (List<Object> term : tree.terms) {
                 for (Object factor : term) {
-                    if (factor instanceof Ref && at((Ref) factor) != NONE) {
-                        set.add(at((Ref) factor));
-                    } else if (factor instanceof Ref[] && rectangle((Ref[]) factor) != null) {
-                        set.addAll(rectangle((Ref[]) factor));
+                    if (factor instanceof Ref) {
+                        addNamed(set, (Ref) factor);
+                    } else if (factor instanceof Ref[]) {
+                        addNamed(set, ((Ref[]) factor)[0]);
+                        addNamed(set, ((Ref[]) factor)[1]);
+                        List<Integer> list = rectangle((Ref[]) factor);
+                        if (list != null) {
+                            set.addAll(list);
+                        }
                     }
                 }
             }

@@ -484,8 +484,38 @@ public final class PromisesTest {
         SharedSheet y = new SharedSheet();
         formula(y, 0, 0, 0, "S(B2:C3)");
         y.remove(0, ROWS, 2);
-        due("a shown corner alone is no reference", y.cell(0, 0, 0, 4), 0);
-        due("referrers of the shown corner", y.cell(0, 1, 1, 5), 0);
+        due("a shown corner counts though the other is gone", y.cell(0, 0, 0, 4), 1);
+        due("referrers of the shown corner", y.cell(0, 1, 1, 5), 1);
+        due("referrers of what was within the rectangle", y.cell(0, 1, 2, 5), 0);
+        cornersThatAreNotShown();
+    }
+
+    private static void cornersThatAreNotShown() {
+        SharedSheet x = new SharedSheet();
+        formula(x, 0, 0, 0, "S(B2:C3)");
+        formula(x, 0, 0, 1, "S(C3:B2)*S(C3:B2)+B2");
+        x.setNumber(0, 1, 1, 4);
+        x.remove(0, COLUMNS, 2);
+        due("the second corner's column is gone", x.cell(0, 0, 0, 4), 1);
+        due("the first corner's column is gone, each cell once", x.cell(0, 0, 1, 4), 1);
+        due("both refer to the shown corner", x.cell(0, 1, 1, 5), 2);
+        errorIs(x, 0, 0, 2);
+        errorIs(x, 0, 1, 2);
+        x.move(0, ROWS, 1, 2);
+        due("the shown corner is moved", x.cell(0, 2, 1, 5), 2);
+        due("and nothing is left where it was", x.cell(0, 1, 1, 5), 0);
+        x.undo();
+        x.undo();
+        due("the column is back", x.cell(0, 0, 0, 4), 4);
+        x.remove(0, COLUMNS, 2);
+        x.remove(0, ROWS, 1);
+        due("no corner is shown", x.cell(0, 0, 0, 4) + x.cell(0, 0, 1, 4), 0);
+        SharedSheet y = new SharedSheet();
+        formula(y, 0, 1, 1, "S(A1:A3)*3");
+        y.remove(0, ROWS, 0);
+        due("the first corner is gone", y.cell(0, 0, 1, 4), 1);
+        due("referrers of the second corner", y.cell(0, 1, 0, 5), 1);
+        due("referrers of what was between", y.cell(0, 0, 0, 5), 0);
     }
 
     private static void value() {
@@ -717,6 +747,30 @@ public final class PromisesTest {
         formula(z, 0, 0, 0, "S(C1:B2)");
         z.move(0, COLUMNS, 0, 1);
         due("a move brings it into the rectangle", z.cycles(0), 1);
+        cyclesByOneCorner();
+    }
+
+    private static void cyclesByOneCorner() {
+        SharedSheet x = new SharedSheet();
+        formula(x, 0, 1, 0, "S(A2:C3)");
+        formula(x, 0, 1, 1, "A2+1");
+        x.remove(0, COLUMNS, 2);
+        due("by the first corner to itself", x.cycles(0), 1);
+        due("on a cycle", x.cell(0, 1, 0, 6), 1);
+        errorIs(x, 1, 0, 1);
+        errorIs(x, 1, 1, 1);
+        SharedSheet y = new SharedSheet();
+        formula(y, 0, 0, 0, "S(C3:B2)");
+        formula(y, 0, 1, 1, "A1");
+        formula(y, 0, 1, 2, "A1");
+        y.remove(0, ROWS, 2);
+        due("by the second corner, not by what was within", y.cycles(0), 2);
+        due("the corner is on the cycle", y.cell(0, 1, 1, 6), 1);
+        due("what was within is not", y.cell(0, 1, 2, 6), 0);
+        errorIs(y, 0, 0, 1);
+        y.remove(0, ROWS, 1);
+        due("no corner, no cycle", y.cycles(0), 0);
+        errorIs(y, 0, 0, 2);
     }
 
     private static void order() {
@@ -745,6 +799,24 @@ public final class PromisesTest {
         orderIs(y, 0, 2, 200, 1);
         y.remove(0, ROWS, 2);
         orderIs(y, 0, 1, 2);
+        orderByOneCorner();
+    }
+
+    private static void orderByOneCorner() {
+        SharedSheet x = new SharedSheet();
+        formula(x, 0, 0, 0, "S(B2:C3)");
+        formula(x, 0, 0, 1, "S(C3:B2)");
+        formula(x, 0, 1, 1, "1");
+        formula(x, 0, 1, 2, "2");
+        x.remove(0, ROWS, 2);
+        orderIs(x, 0, 101, 0, 1, 102);
+        formula(x, 0, 1, 1, "B2");
+        orderIs(x, 0, 102);
+        errorIs(x, 0, 0, 2);
+        x.move(0, ROWS, 1, 0);
+        orderIs(x, 0, 2);
+        x.remove(0, COLUMNS, 1);
+        orderIs(x, 0, 1, 100);
     }
 
     private static void receive() {
