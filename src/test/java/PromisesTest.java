@@ -1,123 +1,5 @@
 /** For each promise of the document at least one test: ordinary inputs, the edges it names, and wrong inputs. */
-public final class PromisesTest {
-    private static final boolean ROWS = false;
-    private static final boolean COLUMNS = true;
-    private static final int NONE = SharedSheet.NONE;
-    private static final Class<?> INDEX = IndexOutOfBoundsException.class;
-    private static final Class<?> ARGUMENT = IllegalArgumentException.class;
-    private static final Class<?> STATE = IllegalStateException.class;
-
-    private static int promise;
-    private static int checks;
-    private static int wrong;
-
-    private interface Call {
-        long answer();
-    }
-
-    private static void due(String what, long got, long want) {
-        checks++;
-        if (got != want) {
-            wrong++;
-            System.out.println("promise " + promise + ": " + what + " answered " + got + ", due is " + want);
-        }
-    }
-
-    /** The very class: what the machine throws by itself are classes below those of the document. */
-    private static void refused(String what, Class<?> want, Call call) {
-        checks++;
-        try {
-            long got = call.answer();
-            wrong++;
-            System.out.println("promise " + promise + ": " + what + " answered " + got + ", due is " + want);
-        } catch (RuntimeException e) {
-            if (e.getClass() != want) {
-                wrong++;
-                System.out.println("promise " + promise + ": " + what + " threw " + e + ", due is " + want);
-            }
-        }
-    }
-
-    /** Wrong calls must also leave everything as it was. */
-    private static void refusedUnchanged(SharedSheet x, String what, Class<?> want, Call call) {
-        long before = x.checksum();
-        refused(what, want, call);
-        due("checksum() behind " + what, x.checksum(), before);
-    }
-
-    private static void text(SharedSheet x, String text) {
-        x.clearText();
-        for (int i = 0; i < text.length(); i++) {
-            x.type(text.charAt(i));
-        }
-    }
-
-    private static String text(SharedSheet x) {
-        StringBuilder b = new StringBuilder();
-        for (int i = 0; x.character(i) != NONE; i++) {
-            b.append((char) x.character(i));
-        }
-        return b.toString();
-    }
-
-    private static int formula(SharedSheet x, int replica, int row, int column, String text) {
-        text(x, text);
-        return x.setFormula(replica, row, column);
-    }
-
-    private static void faultIs(SharedSheet x, String text, int want) {
-        text(x, text);
-        due("fault(0) of " + text, x.fault(0), want);
-    }
-
-    private static void writtenIs(SharedSheet x, int replica, int row, int column, String want) {
-        due("length of write()", x.write(replica, row, column), want.length());
-        due("write() as " + want + ", it is " + text(x), text(x).equals(want) ? 1 : 0, 1);
-    }
-
-    private static void valueIs(SharedSheet x, int row, int column, int want) {
-        due("value(0, " + row + ", " + column + ")", x.value(0, row, column), want);
-        due("error(0, " + row + ", " + column + ")", x.error(0, row, column), 0);
-    }
-
-    private static void errorIs(SharedSheet x, int row, int column, int want) {
-        due("value(0, " + row + ", " + column + ")", x.value(0, row, column), 0);
-        due("error(0, " + row + ", " + column + ")", x.error(0, row, column), want);
-    }
-
-    private static void linesAre(SharedSheet x, int replica, boolean columns, int... want) {
-        due("shown(" + replica + ", " + columns + ")", x.shown(replica, columns), want.length);
-        for (int p = 0; p < want.length; p++) {
-            due("line(" + replica + ", " + columns + ", " + p + ")", x.line(replica, columns, p), want[p]);
-        }
-    }
-
-    private static void orderIs(SharedSheet x, int replica, int... want) {
-        for (int k = 0; k < want.length; k++) {
-            due("order(" + replica + ", " + k + ")", x.order(replica, k), want[k]);
-        }
-        due("order() behind the last", x.order(replica, want.length), NONE);
-    }
-
-    private static void fillLog(SharedSheet x, int replica) {
-        for (int k = 0; k < 40 && x.operation(replica, 39, 0) == NONE; k++) {
-            x.setNumber(replica, 0, 0, k);
-        }
-    }
-
-    /** All rows and columns that there can be, at all replicas: 12 of each. */
-    private static SharedSheet widest() {
-        SharedSheet x = new SharedSheet();
-        for (int r = 0; r < 3; r++) {
-            for (int k = 0; k < 3; k++) {
-                x.make(r, ROWS, x.shown(r, ROWS));
-                x.make(r, COLUMNS, x.shown(r, COLUMNS));
-            }
-        }
-        x.settle();
-        return x;
-    }
-
+public final class PromisesTest extends Checks {
     private static void newObject() {
         SharedSheet x = new SharedSheet();
         for (int r = 0; r < 3; r++) {
@@ -1103,11 +985,6 @@ public final class PromisesTest {
         due("far", x.character(Integer.MIN_VALUE), NONE);
     }
 
-    /** The checksum ends with the number of records, so without it the rest can be compared. */
-    private static long withoutRecords(SharedSheet x, int records) {
-        return x.checksum() - records;
-    }
-
     private static void undoable(SharedSheet x, int k) {
         switch (k) {
             case 0:
@@ -1268,13 +1145,10 @@ public final class PromisesTest {
             PromisesTest::clock, PromisesTest::operation, PromisesTest::areAlike, PromisesTest::different,
             PromisesTest::type, PromisesTest::clearText, PromisesTest::fault, PromisesTest::character,
             PromisesTest::undo, PromisesTest::checksum};
-        for (Runnable test : promises) {
-            promise++;
-            test.run();
+        for (int k = 0; k < promises.length; k++) {
+            about("promise " + (k + 1));
+            promises[k].run();
         }
-        System.out.println(promise + " promises, " + checks + " answers, " + wrong + " not as due");
-        if (wrong != 0) {
-            System.exit(1);
-        }
+        finish(promises.length + " promises");
     }
 }
