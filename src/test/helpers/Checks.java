@@ -292,8 +292,8 @@ abstract class Checks {
 
     static String text(SharedSheet x) {
         StringBuilder b = new StringBuilder();
-        for (int i = 0; x.character(i) != NONE; i++) {
-            b.append((char) x.character(i));
+        for (int c = x.character(0); c != NONE && b.length() < 30; c = x.character(b.length())) {
+            b.append((char) c);
         }
         return b.toString();
     }

@@ -206,6 +206,8 @@ public final class EdgesOperationsTest extends Checks {
             x.undo();
             due("undone", x.operation(0, 39, 1), NONE);
             due("before what was undone", x.operation(0, 38, 1), 39);
+            x.remove(0, ROWS, 2);
+            operationIs(x, 0, 39, 3, 40, 0, 2, NONE);
         });
         holds("Promise 22", NO_REPLICA, () -> refusesOtherReplicas(Checks::nothing, (x, r) -> x.operation(r, 0, 0)));
         holds("Promise 22", "Throws `IllegalArgumentException` if what is not 0 to 4", () -> {
@@ -312,11 +314,36 @@ public final class EdgesOperationsTest extends Checks {
             x.remove(0, COLUMNS, 2);
             x.remove(1, COLUMNS, 2);
         });
+        alikeInEachCell();
+    }
+
+    private static void alikeInEachCell() {
+        for (int k = 0; k < 9; k++) {
+            int cell = k;
+            alike("only cell " + k + " is another", false, x -> x.setNumber(0, cell / 3, cell % 3, 1));
+        }
+        alike("the last of two rows and three columns", false, x -> {
+            x.setNumber(0, 1, 2, 1);
+            x.remove(0, ROWS, 2);
+            x.remove(1, ROWS, 2);
+        });
+        alike("the last of three rows and two columns", false, x -> {
+            x.setNumber(0, 2, 1, 1);
+            x.remove(0, COLUMNS, 2);
+            x.remove(1, COLUMNS, 2);
+        });
+        SharedSheet z = new SharedSheet();
+        z.setNumber(0, 2, 0, 1);
+        z.setNumber(0, 0, 2, 1);
+        dueFalse("two numbers", z.areAlike(0, 1));
+        for (int k = 0; k < 4; k++) {
+            z.remove(k / 2, k % 2 == 1, 2);
+        }
+        dueTrue("that are no longer shown", z.areAlike(0, 1));
         SharedSheet y = widest();
-        y.setNumber(0, 11, 11, 1);
-        dueFalse("the last of 144 cells", y.areAlike(0, 1));
-        y.undo();
         dueTrue("144 empty cells", y.areAlike(0, 1));
+        y.setNumber(0, 11, 11, 1);
+        dueFalse("the last of them", y.areAlike(0, 1));
     }
 
     private static void different() {
@@ -331,7 +358,7 @@ public final class EdgesOperationsTest extends Checks {
             x.receive(0, 1, 1);
             due("the same stamp", x.different(0, 1), 0);
             x.clearCell(0, 0, 0);
-            due("another clock", x.different(1, 0), 1);
+            due("another clock and replica", x.different(1, 0), 1);
             x.clearCell(0, 2, 2);
             due("two", x.different(0, 1), 2);
             x.remove(0, ROWS, 2);
@@ -339,6 +366,11 @@ public final class EdgesOperationsTest extends Checks {
             removeAll(x, 0, COLUMNS);
             due("both not shown", x.different(0, 1), 2);
             due("itself", x.different(0, 0), 0);
+            SharedSheet z = new SharedSheet();
+            z.clearCell(0, 0, 1);
+            z.clearCell(0, 0, 1);
+            z.receive(1, 0, 1);
+            due("another clock, the same replica", z.different(0, 1), 1);
             SharedSheet y = widest();
             for (int k = 0; k < 34; k++) {
                 y.clearCell(0, k / 12, k % 12);

@@ -143,6 +143,12 @@ public final class EdgesTextsTest extends Checks {
             due("a settled full log", x.missing(1, 0) + x.missing(2, 0), 80);
             due("is not undone itself", x.clock(0), 40);
             due("nothing there", x.clock(1) + x.clock(2), 0);
+            SharedSheet y = new SharedSheet();
+            formula(y, 0, 0, 0, "A1+5");
+            errorIs(y, 0, 0, 1);
+            y.undo();
+            valueIs(y, 0, 0, 0);
+            due("no cycle is left", y.cycles(0) + y.cell(0, 0, 0, 5), 0);
         });
         holds("Promise 29", "Throws `IllegalStateException` if there is none", () -> {
             refusedAfter(Checks::nothing, STATE, "a new object", SharedSheet::undo);

@@ -125,7 +125,8 @@ public final class TermsCellsTest extends Checks {
             valuesAre(x, "5", 5, "A1", 4, "S(A1:A1)", 4, "S(A1:C1)*S(A1:A3)*A1*1", 64);
             faultsAre(x, "S", 1, "S(", 2, "S(A", 3, "S(A1", 4, "S(A1:", 5, "S(A1:B", 6, "S(A1:B2", 7, "s(A1:B2)", 0,
                     "SA1:B2)", 1, "S(1:B2)", 2, "S(A1)", 4, "S(A1;B2)", 4, "S(A1:1)", 5, "S(A1:B2:", 7, "S(A1:B2)A1", 8,
-                    "S(A1:B2)1", 8, "S(S(A1:B2):B2)", 2, "S(A1+B2)", 4, "S((", 2, "S(:", 2);
+                    "S(A1:B2)1", 8, "S(S(A1:B2):B2)", 2, "S(A1+B2)", 4, "S((", 2, "S(:", 2, "S()", 2, "S(A)", 3,
+                    "S(A:B2)", 3, "S(:B2)", 2, "S(A1:)", 5, "S(A1:B)", 6, "S(A1:B2+", 7);
         });
         holds(FORMULAS, "cell = column row", () -> faultsAre(new SharedSheet(), "A1", NONE, "1A", 1, "A", 1, "AA1", 1,
                 "A1A", 2, "A11", 2, "a1", 0, "$A1", 0, "#", 0));
@@ -134,9 +135,20 @@ public final class TermsCellsTest extends Checks {
     /** Pairs of a text and the value of its formula. */
     private static void valuesAre(SharedSheet x, Object... pairs) {
         for (int k = 0; k + 1 < pairs.length; k += 2) {
-            formula(x, 0, 2, 2, (String) pairs[k]);
-            valueIs(x, 2, 2, (Integer) pairs[k + 1]);
+            gives(x, (String) pairs[k], (Integer) pairs[k + 1]);
         }
+    }
+
+    /** The value of a formula in the third row and column. */
+    private static void gives(SharedSheet x, String text, int value) {
+        formula(x, 0, 2, 2, text);
+        valueIs(x, 2, 2, value);
+    }
+
+    /** The error of a formula in the third row and column. */
+    private static void fails(SharedSheet x, String text, int error) {
+        formula(x, 0, 2, 2, text);
+        errorIs(x, 2, 2, error);
     }
 
     /** Pairs of a text and its fault. */
@@ -334,6 +346,14 @@ public final class TermsCellsTest extends Checks {
             valueIs(x, 0, 1, 899820009);
             formula(x, 0, 0, 0, "9999*9999*9");
             valueIs(x, 0, 0, 899820009);
+            formula(x, 0, 0, 0, "A1");
+            errorIs(x, 0, 0, 1);
+            x.setNumber(0, 0, 0, 6);
+            valueIs(x, 0, 0, 6);
+            formula(x, 0, 0, 0, "9999*9999*99");
+            errorIs(x, 0, 0, 3);
+            x.clearCell(0, 0, 0);
+            valueIs(x, 0, 0, 0);
         });
         holds(VALUES, "An empty cell has the value 0, a number itself.", () -> {
             SharedSheet x = new SharedSheet();
@@ -376,16 +396,11 @@ public final class TermsCellsTest extends Checks {
         SharedSheet x = new SharedSheet();
         valuesAre(x, "2+3*4", 14, "2*3+4", 10, "9-2*3-1", 2, "9-3-3", 3, "2*3-4*5", -14, "1-1*0", 1);
         formula(x, 0, 0, 0, "1000*1000*1000");
-        formula(x, 0, 0, 1, "A1+1-A1");
-        errorIs(x, 0, 1, 3);
-        formula(x, 0, 0, 1, "A1-A1+1");
-        valueIs(x, 0, 1, 1);
-        formula(x, 0, 0, 1, "A1+1*0");
-        valueIs(x, 0, 1, 1000000000);
-        formula(x, 0, 0, 1, "A1*2*0");
-        errorIs(x, 0, 1, 3);
-        formula(x, 0, 0, 1, "0*A1*2");
-        valueIs(x, 0, 1, 0);
+        fails(x, "A1+1-A1", 3);
+        gives(x, "A1-A1+1", 1);
+        gives(x, "A1+1*0", 1000000000);
+        fails(x, "A1*2*0", 3);
+        gives(x, "0*A1*2", 0);
         formula(x, 0, 0, 1, "A1+1-C3");
         formula(x, 0, 1, 0, "A1+C3+1");
         formula(x, 0, 1, 1, "A1*2*C3");
@@ -437,7 +452,30 @@ public final class TermsCellsTest extends Checks {
                 formula(x, 0, 1, 0, texts[k]);
                 errorIs(x, 1, 0, want[k]);
             }
+            firstErrorAtTheLimit();
         });
+    }
+
+    /** Whatever is added to the greatest and to the least value, the error is met before the sum. */
+    private static void firstErrorAtTheLimit() {
+        SharedSheet x = after(TermsCellsTest::oneOfEachError);
+        formula(x, 0, 2, 0, "1000*1000*1000");
+        for (String text : new String[] {"A3+B1", "A3-B1", "0-A3+B1", "0-A3-B1", "A3*B1", "A3+S(B1:C1)", "A3-S(B1:C1)",
+            "0-A3+S(B1:C1)", "0-A3-S(B1:C1)"}) {
+            formula(x, 0, 1, 0, text);
+            errorIs(x, 1, 0, 2);
+        }
+        SharedSheet y = new SharedSheet();
+        formula(y, 0, 0, 0, "1000*1000*1000");
+        formula(y, 0, 0, 1, "A1+C3");
+        formula(y, 0, 0, 2, "A1-C3");
+        formula(y, 0, 1, 0, "0-A1-S(A1:C3)");
+        formula(y, 0, 1, 1, "0-A1+S(C3:A1)");
+        y.remove(0, ROWS, 2);
+        errorIs(y, 0, 1, 2);
+        errorIs(y, 0, 2, 2);
+        errorIs(y, 1, 0, 2);
+        errorIs(y, 1, 1, 2);
     }
 
     private static void rowByRow() {
@@ -457,8 +495,10 @@ public final class TermsCellsTest extends Checks {
             y.setNumber(0, k / 3, k % 3, 1 << k);
         }
         y.make(0, COLUMNS, 3);
-        formula(y, 0, 0, 3, "S(A1:C3)");
-        valueIs(y, 0, 3, 511);
+        for (String corners : new String[] {"S(A1:C3)", "S(C3:A1)", "S(A3:C1)", "S(C1:A3)"}) {
+            formula(y, 0, 0, 3, corners);
+            valueIs(y, 0, 3, 511);
+        }
         formula(y, 0, 0, 3, "S(C2:B3)");
         valueIs(y, 0, 3, 16 + 32 + 128 + 256);
         formula(y, 0, 0, 3, "S(B2:B2)");
@@ -470,42 +510,27 @@ public final class TermsCellsTest extends Checks {
         formula(x, 0, 0, 0, "999*1000+1");
         x.setNumber(0, 0, 1, -1001);
         x.setNumber(0, 0, 2, -1000);
-        formula(x, 0, 1, 0, "1000*1000*1000");
-        valueIs(x, 1, 0, 1000000000);
-        formula(x, 0, 1, 0, "A1*1001");
-        errorIs(x, 1, 0, 3);
-        formula(x, 0, 1, 0, "C1*1000*1000");
-        valueIs(x, 1, 0, -1000000000);
-        formula(x, 0, 1, 0, "A1*B1");
-        errorIs(x, 1, 0, 3);
-        formula(x, 0, 1, 0, "C1*C1*C1");
-        valueIs(x, 1, 0, -1000000000);
-        formula(x, 0, 1, 0, "1+A1*1001");
-        errorIs(x, 1, 0, 3);
-        formula(x, 0, 1, 0, "1-A1*1001");
-        errorIs(x, 1, 0, 3);
+        gives(x, "1000*1000*1000", 1000000000);
+        fails(x, "A1*1001", 3);
+        gives(x, "C1*1000*1000", -1000000000);
+        fails(x, "A1*B1", 3);
+        gives(x, "C1*C1*C1", -1000000000);
+        fails(x, "1+A1*1001", 3);
+        fails(x, "1-A1*1001", 3);
     }
 
     private static void sumsAtTheLimit() {
         SharedSheet x = new SharedSheet();
         formula(x, 0, 0, 0, "1000*1000*1000");
         x.setNumber(0, 0, 1, -1);
-        formula(x, 0, 1, 0, "A1+0");
-        valueIs(x, 1, 0, 1000000000);
-        formula(x, 0, 1, 0, "A1+1");
-        errorIs(x, 1, 0, 3);
-        formula(x, 0, 1, 0, "A1-B1");
-        errorIs(x, 1, 0, 3);
-        formula(x, 0, 1, 0, "A1-1+1");
-        valueIs(x, 1, 0, 1000000000);
-        formula(x, 0, 1, 0, "0-A1");
-        valueIs(x, 1, 0, -1000000000);
-        formula(x, 0, 1, 0, "0-A1-1");
-        errorIs(x, 1, 0, 3);
-        formula(x, 0, 1, 0, "0-A1+B1");
-        errorIs(x, 1, 0, 3);
-        formula(x, 0, 1, 0, "1-A1-1");
-        valueIs(x, 1, 0, -1000000000);
+        gives(x, "A1+0", 1000000000);
+        fails(x, "A1+1", 3);
+        fails(x, "A1-B1", 3);
+        gives(x, "A1-1+1", 1000000000);
+        gives(x, "0-A1", -1000000000);
+        fails(x, "0-A1-1", 3);
+        fails(x, "0-A1+B1", 3);
+        gives(x, "1-A1-1", -1000000000);
     }
 
     private static void sumsOfRectanglesAtTheLimit() {
@@ -535,23 +560,17 @@ public final class TermsCellsTest extends Checks {
         SharedSheet x = new SharedSheet();
         formula(x, 0, 0, 0, "8192*8");
         valueIs(x, 0, 0, 65536);
-        formula(x, 0, 0, 1, "A1*A1");
-        errorIs(x, 0, 1, 3);
+        fails(x, "A1*A1", 3);
         formula(x, 0, 0, 0, "1000*1000*1000");
-        formula(x, 0, 0, 1, "A1*5");
-        errorIs(x, 0, 1, 3);
-        formula(x, 0, 0, 1, "A1*A1");
-        errorIs(x, 0, 1, 3);
-        formula(x, 0, 0, 1, "A1*A1*A1");
-        errorIs(x, 0, 1, 3);
+        fails(x, "A1*5", 3);
+        fails(x, "A1*A1", 3);
+        fails(x, "A1*A1*A1", 3);
         formula(x, 0, 0, 1, "A1");
         formula(x, 0, 0, 2, "A1");
         formula(x, 0, 1, 0, "A1");
         formula(x, 0, 1, 1, "A1");
-        formula(x, 0, 2, 0, "A1+B1+C1+A2");
-        errorIs(x, 2, 0, 3);
-        formula(x, 0, 2, 0, "S(A1:B2)");
-        errorIs(x, 2, 0, 3);
+        fails(x, "A1+B1+C1+A2", 3);
+        fails(x, "S(A1:B2)", 3);
     }
 
     private static void order() {
@@ -580,6 +599,17 @@ public final class TermsCellsTest extends Checks {
             orderIs(x, 0, 2, 1);
             x.move(0, COLUMNS, 2, 0);
             orderIs(x, 0, 0, 2);
+            SharedSheet y = new SharedSheet();
+            for (int k = 0; k < 9; k++) {
+                formula(y, 0, k / 3, k % 3, k == 0 ? "C3" : "1");
+            }
+            orderIs(y, 0, 1, 2, 100, 101, 102, 200, 201, 202, 0);
+            y.move(0, ROWS, 2, 0);
+            orderIs(y, 0, 0, 1, 2, 100, 101, 102, 200, 201, 202);
+            y.move(0, COLUMNS, 0, 2);
+            orderIs(y, 0, 0, 1, 2, 100, 101, 102, 200, 201, 202);
+            y.move(0, ROWS, 0, 2);
+            orderIs(y, 0, 0, 1, 100, 101, 102, 200, 201, 2, 202);
         });
     }
 
