@@ -260,6 +260,13 @@ public final class EdgesCellsTest extends Checks {
         due("the first corner is referred to", y.cell(0, 0, 0, 5), 1);
         y.remove(0, COLUMNS, 0);
         due("no corner is shown", y.cell(0, 1, 0, 4), 0);
+        SharedSheet z = new SharedSheet();
+        formula(z, 0, 0, 0, "C3");
+        formula(z, 0, 0, 1, "A2+A3");
+        formula(z, 0, 0, 2, "S(A2:C3)");
+        due("the first of three neighbours", z.cell(0, 0, 0, 4), 1);
+        due("the second", z.cell(0, 0, 1, 4), 2);
+        due("the third", z.cell(0, 0, 2, 4), 6);
     }
 
     private static void cellsThatRefer() {

@@ -344,6 +344,12 @@ public final class EdgesOperationsTest extends Checks {
         dueTrue("144 empty cells", y.areAlike(0, 1));
         y.setNumber(0, 11, 11, 1);
         dueFalse("the last of them", y.areAlike(0, 1));
+        y.undo();
+        y.setNumber(0, 10, 11, 1);
+        dueFalse("the last of the row before", y.areAlike(0, 1));
+        y.remove(0, COLUMNS, 11);
+        y.remove(1, COLUMNS, 11);
+        dueTrue("without the last column", y.areAlike(0, 1));
     }
 
     private static void different() {

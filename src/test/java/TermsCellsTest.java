@@ -61,6 +61,12 @@ public final class TermsCellsTest extends Checks {
         x.receive(0, 2, 1);
         due("(3, 2) behind (2, 0)", x.value(0, 0, 0), 13);
         stampIs(x, 0, 0, 0, 3, 2);
+        SharedSheet y = new SharedSheet();
+        y.setNumber(0, 0, 0, 7);
+        y.clearCell(1, 0, 0);
+        y.receive(1, 0, 1);
+        due("(1, 0) behind an emptying (1, 1)", y.cell(1, 0, 0, 0), 0);
+        stampIs(y, 1, 0, 0, 1, 1);
     }
 
     private static void shownCells() {
