@@ -22,6 +22,9 @@ public final class ModelTest {
     private static final int REPEATING = 3;
     private static final int WIDE = 4;
     private static final int LARGE = 5;
+    private static final int REMOVING = 6;
+    private static final int SUMMING = 7;
+    private static final int STYLES = 8;
 
     // ---- the model
 
@@ -881,7 +884,16 @@ public final class ModelTest {
 
     private ModelTest(long seed) {
         random = new Random(seed);
-        style = random.nextInt(6);
+        style = (int) Math.floorMod(seed, (long) STYLES);
+    }
+
+    private boolean hasLargeNumbers() {
+        return style == LARGE || style == SUMMING;
+    }
+
+    /** Where lines are removed, one corner of S( : ) is then often not shown. */
+    private boolean hasManySums() {
+        return style == REMOVING || style == SUMMING;
     }
 
     private static Object answer(LongSupplier call) {
@@ -935,7 +947,7 @@ public final class ModelTest {
                         () -> model.move(r, col, p, q));
                 break;
             case 3:
-                if (random.nextInt(3) == 0) {
+                if (style == REMOVING || random.nextInt(3) == 0) {
                     same("remove(" + r + ", " + col + ", " + p + ")", () -> sheet.remove(r, col, p),
                             () -> model.remove(r, col, p));
                 }
@@ -963,8 +975,9 @@ public final class ModelTest {
         int row = position(r, false);
         int column = position(r, true);
         String at = r + ", " + row + ", " + column;
-        int n = random.nextInt(25) == 0 ? random.nextInt(20200) - 10100
-                : random.nextInt(style == LARGE ? 2 : 4) == 0 ? (random.nextBoolean() ? 9999 : -9999) : random.nextInt(21) - 10;
+        int usual = random.nextInt(hasLargeNumbers() ? 2 : 4) == 0 ? (random.nextBoolean() ? 9999 : -9999)
+                : random.nextInt(21) - 10;
+        int n = random.nextInt(25) == 0 ? random.nextInt(20200) - 10100 : usual;
         switch (random.nextInt(6)) {
             case 0:
             case 1:
@@ -1065,7 +1078,22 @@ public final class ModelTest {
             same("setNumber(0, " + row + ", " + column + ", " + n + ")", () -> sheet.setNumber(0, row, column, n),
                     () -> model.setNumber(0, row, column, n));
         }
+        for (String text : new String[] {"1000*1000*1000", "0-1000*1000*1000", "9999*9999*10"}) {
+            same("clearText()", () -> sheet.clearText(), () -> model.clearText());
+            typeAll(text);
+            int row = random.nextInt(3);
+            int column = random.nextInt(3);
+            same("setFormula(0, " + row + ", " + column + ")", () -> sheet.setFormula(0, row, column),
+                    () -> model.setFormula(0, row, column));
+        }
         same("settle()", () -> sheet.settle(), () -> model.settle());
+    }
+
+    private void typeAll(String text) {
+        for (int i = 0; i < text.length(); i++) {
+            int c = random.nextInt(300) == 0 ? random.nextInt(200) - 30 : text.charAt(i);
+            same("type(" + c + ")", () -> sheet.type(c), () -> model.type(c));
+        }
     }
 
     private String aCell() {
@@ -1074,9 +1102,9 @@ public final class ModelTest {
     }
 
     private String aFactor() {
-        switch (random.nextInt(6)) {
+        switch (hasManySums() && random.nextBoolean() ? 1 : random.nextInt(6)) {
             case 0:
-                return "" + (style == LARGE ? 9999 : random.nextInt(random.nextBoolean() ? 10 : 10000));
+                return "" + (hasLargeNumbers() ? 9999 : random.nextInt(random.nextBoolean() ? 10 : 10000));
             case 1:
                 return "S(" + aCell() + ":" + aCell() + ")";
             case 2:
@@ -1088,8 +1116,9 @@ public final class ModelTest {
 
     private void texts() {
         StringBuilder b = new StringBuilder(aFactor());
-        while (random.nextInt(style == LARGE ? 3 : 5) < 2) {
-            b.append((style == LARGE ? "+-****" : "+-*").charAt(random.nextInt(style == LARGE ? 6 : 3)));
+        String signs = hasLargeNumbers() ? "+-****" : "+-*";
+        while (random.nextInt(hasLargeNumbers() ? 3 : 5) < 2) {
+            b.append(signs.charAt(random.nextInt(signs.length())));
             b.append(aFactor());
         }
         if (random.nextInt(8) == 0) {
@@ -1104,10 +1133,7 @@ public final class ModelTest {
         if (random.nextInt(10) != 0) {
             same("clearText()", () -> sheet.clearText(), () -> model.clearText());
         }
-        for (int i = 0; i < b.length(); i++) {
-            int c = random.nextInt(300) == 0 ? random.nextInt(200) - 30 : b.charAt(i);
-            same("type(" + c + ")", () -> sheet.type(c), () -> model.type(c));
-        }
+        typeAll(b.toString());
         int r = replica();
         same("fault(" + r + ")", () -> sheet.fault(r), () -> model.fault(r));
         int times = 1 + random.nextInt(style == REPEATING ? 12 : 4);
@@ -1126,7 +1152,7 @@ public final class ModelTest {
     private boolean run() {
         if (style == WIDE) {
             makeAllLines();
-        } else if (style == LARGE) {
+        } else if (hasLargeNumbers()) {
             fillWithLargeNumbers();
         }
         while (calls < CALLS && !wrong) {

@@ -682,6 +682,22 @@ public final class PromisesTest extends Checks {
         y.remove(0, ROWS, 2);
         orderIs(y, 0, 1, 2);
         orderByOneCorner();
+        orderBesideCellsNotShown();
+    }
+
+    /** Promise 17 with "whose shown formulas to which they refer are all in it": a formula not shown leads nowhere. */
+    private static void orderBesideCellsNotShown() {
+        SharedSheet x = new SharedSheet();
+        formula(x, 0, 0, 0, "B2");
+        formula(x, 0, 1, 1, "C3");
+        formula(x, 0, 2, 2, "C3");
+        formula(x, 0, 0, 1, "A1");
+        orderIs(x, 0);
+        errorIs(x, 0, 1, 1);
+        x.remove(0, ROWS, 1);
+        orderIs(x, 0, 0, 1);
+        errorIs(x, 0, 1, 2);
+        due("the cycle stays", x.cycles(0), 1);
     }
 
     private static void orderByOneCorner() {
